@@ -1,0 +1,219 @@
+import java.lang.reflect.Method;
+import java.util.ArrayList;
+import java.util.Arrays;
+import java.util.HashMap;
+import java.util.List;
+import java.util.Map;
+import java.util.Random;
+
+/** Draws squares and calls, from seeds that stay, and holds every answer to the Model. */
+final class ModelTest {
+    /** Name, then least and most of each argument. A few draws go beyond them. */
+    private static final String[] CALLS = {
+        "end 0 1600", "square", "fault 0 1", "pace 0 60", "blow 0 39", "blows 0 39 0 400", "day 0 3",
+        "wet 0 12 0 12", "table 0 4 0 3", "over", "water 0 5", "jet 0 3", "lets 0 9", "land 0 3 1 60 0 39",
+        "drift 0 3 1 60 0 39", "stray 0 60 0 39", "low 0 39 0 40", "bound 0 4 0 39", "reach 0 4 0 3",
+        "already 0 4 0 39", "coming 0 39", "worst 0 4", "thought 0 3 0 5", "lagged 0 3 0 20 0 5", "worth 0 3",
+        "most 0 3 0 4", "rule 0 3", "half 0 3 0 400", "nozzle 0 3 0 99", "fine 0 3 1 60 0 39", "ice",
+        "shut 0 3 1 60", "marks 0 12 0 12 1 60", "span 0 12 0 12 1 60 0 3", "where 0 4 0 9", "move 0 4 0 12 0 12",
+        "bow 0 12 0 12 0 3", "bows 0 3", "mist 0 3 0 39", "gusts 0 2000000000 0 39 0 400 0 100",
+        "winds 0 3 1 60 0 1", "two 0 3 0 20 0 5", "climbs 0 3 1 60 0 5", "wear 0 3", "idle 0 3", "first 0 3 0 4",
+        "last 0 4 0 39", "sum 0 12 0 12 1 30 1 30", "wettest 0 1", "small 1 11 0 60 0 39", "best 0 3",
+        "stand 0 3 0 3", "tall 0 3 0 500", "pays 0 3 0 99", "dry 0 3", "week 0 3 1 10 0 5", "way 0 12 0 12 0 12 0 12",
+        "often 0 4 0 2000000000 1 20 0 39 0 60 0 100", "count 0 12", "keep 0 2", "back 0 2", "row 0 3 0 3 0 60",
+        "write 0 3 0 20 0 39", "paste 0 3 0 10 0 3 0 10 0 10",
+    };
+    /** Calls that would end most runs in an empty square, or that the Model plays slowly. */
+    private static final List<String> RARE = Arrays.asList("square", "end", "back", "row", "rule", "stand", "most", "tall", "pays", "best", "often", "blows", "gusts", "paste", "reach", "week");
+
+    private final Random random;
+    private final Told told;
+    private final Map<String, Method> methods = new HashMap<>();
+    private TableNine mine;
+    private Model model;
+    private final List<String> history = new ArrayList<>();
+    private boolean good = true;
+
+    private ModelTest(long seed, Told told) {
+        random = new Random(seed);
+        this.told = told;
+        for (Method m : TableNine.class.getMethods()) {
+            methods.put(m.getName(), m);
+        }
+    }
+
+    private int draw(int least, int most) {
+        return least + (int) Math.floorMod(random.nextLong(), (long) most - least + 1);
+    }
+
+    private int ask(String name, int... args) throws ReflectiveOperationException {
+        history.add(name + Arrays.toString(args));
+        Object[] boxed = new Object[args.length];
+        for (int i = 0; i < args.length; i++) {
+            boxed[i] = name.equals("write") && i == 2 ? (Object) (long) args[i] : (Object) args[i];
+        }
+        int got = (Integer) methods.get(name).invoke(mine, boxed);
+        int want = model.call(name, args);
+        told.due(name + Arrays.toString(args), got, want);
+        if (got != want) {
+            good = false;
+        }
+        return got;
+    }
+
+    private String text() {
+        int wide = draw(5, 13);
+        int length = draw(5, 13);
+        List<String> lines = new ArrayList<>();
+        if (random.nextInt(5) > 0) {
+            lines.add("jet at " + draw(0, wide - 1) + " " + draw(0, length - 1) + " half " + draw(0, random.nextInt(4) == 0 ? 9 : 2) + " high " + draw(0, 60));
+        }
+        for (int i = draw(0, 4); i > 0; i--) {
+            lines.add("size drag " + draw(0, random.nextInt(3) == 0 ? 99 : 25) + " share " + draw(1, 9));
+        }
+        for (int i = draw(0, 5); i > 0; i--) {
+            lines.add("table at " + draw(0, wide - 1) + " " + draw(0, length - 1) + " most " + draw(0, random.nextInt(3) == 0 ? 999 : 20));
+        }
+        if (random.nextInt(3) > 0) {
+            lines.add("road " + draw(0, length - 1));
+        }
+        if (random.nextInt(4) > 0) {
+            lines.add("vane lag " + draw(0, 20) + " climb " + draw(1, 60));
+        }
+        int wind = draw(0, 4);
+        StringBuilder rules = new StringBuilder();
+        for (int i = draw(0, 4); i > 0 && wind < 10; i--) {
+            rules.append("rule wind ").append(wind).append(" high ").append(draw(0, 60)).append(";");
+            wind += draw(1, 4);
+        }
+        java.util.Collections.shuffle(lines, random);
+        StringBuilder all = new StringBuilder("square wide " + wide + " long " + length + ";");
+        for (String line : lines) {
+            all.append(random.nextBoolean() ? " " : "\n").append(line).append(random.nextBoolean() ? " ;" : ";");
+        }
+        return all.append(rules).toString();
+    }
+
+    /** Texts that are broken somewhere, so that FAULTS and their places are met. */
+    private String broken(String text) {
+        StringBuilder b = new StringBuilder(text);
+        String[] bits = {" ", ";", "9", "x", "jet", " size drag 1 share 1;", "table at 0 0 most 0;", "road 0;", "vane lag 0 climb 1;", "rule wind 0 high 0;", "Q", "\t", "\u00e9", "99", "square", "\n"};
+        for (int i = draw(1, 3); i > 0; i--) {
+            int at = draw(0, b.length());
+            if (random.nextInt(3) == 0 && at < b.length()) {
+                b.deleteCharAt(at);
+            } else {
+                b.insert(at, bits[random.nextInt(bits.length)]);
+            }
+        }
+        if (random.nextInt(4) == 0) {
+            b.setLength(draw(0, b.length()));
+        }
+        if (random.nextInt(4) == 0) {
+            String many = bits[5 + random.nextInt(2)];
+            for (int i = 0; i < 10; i++) b.append(many);
+        }
+        return b.toString();
+    }
+
+    private void tell(String text) throws ReflectiveOperationException {
+        int before = ask("count", 6);
+        for (int at = 0; at < text.length(); at += 20) {
+            int[] fives = new int[5];
+            for (int i = 0; i < 20; i++) {
+                fives[i / 4] = fives[i / 4] << 8 | (at + i < text.length() ? text.charAt(at + i) & 255 : 32);
+            }
+            ask("feed", fives);
+        }
+        ask("end", before + text.length());
+    }
+
+    private int argument(int least, int most) {
+        int kind = random.nextInt(60);
+        if (kind == 0) {
+            return least - 1;
+        }
+        if (kind == 1) {
+            return most + 1;
+        }
+        if (kind == 2) {
+            int[] far = {Integer.MIN_VALUE, Integer.MAX_VALUE, -1000, 100000};
+            return far[random.nextInt(far.length)];
+        }
+        return kind < 6 ? (random.nextBoolean() ? least : most) : draw(least, most);
+    }
+
+    private void fillRow() throws ReflectiveOperationException {
+        int slot = draw(0, 3);
+        int n = draw(0, 40);
+        ask("row", slot, draw(0, 3), n);
+        boolean marks = random.nextInt(6) == 0;
+        for (int i = 0; i < Math.min(n, marks ? 2 : 40); i++) {
+            int steady = draw(0, 3) * 10;
+            ask("write", slot, i, marks ? draw(0, 12) + 100 * draw(0, 12) : random.nextInt(300) == 0 ? draw(-300, 300) : random.nextBoolean() ? draw(0, 39) : steady + draw(1, 9));
+        }
+    }
+
+    private void drawCall() throws ReflectiveOperationException {
+        String[] call = CALLS[random.nextInt(CALLS.length)].split(" ");
+        if (RARE.contains(call[0]) && random.nextInt(6) > 0) {
+            return;
+        }
+        int[] args = new int[(call.length - 1) / 2];
+        for (int i = 0; i < args.length; i++) {
+            args[i] = argument(Integer.parseInt(call[2 * i + 1]), Integer.parseInt(call[2 * i + 2]));
+        }
+        if (call[0].equals("write") && random.nextInt(30) > 0) {
+            args[2] = draw(0, 39);
+        }
+        ask(call[0], args);
+    }
+
+    private void run() throws ReflectiveOperationException {
+        mine = new TableNine();
+        model = new Model();
+        for (int i = random.nextInt(6); i > 0; i--) {
+            tell(broken(text()));
+            ask("square");
+            ask("fault", 0);
+            ask("fault", 1);
+        }
+        tell(text());
+        ask("square");
+        fillRow();
+        fillRow();
+        while (history.size() < 500 && good) {
+            int kind = random.nextInt(40);
+            if (kind < 4) {
+                ask("blow", draw(0, 3) * 10 + draw(0, 4));
+            } else if (kind == 4) {
+                ask("blows", draw(0, 39), draw(0, 30));
+            } else if (kind == 5 && random.nextInt(4) == 0 && history.size() < 400) {
+                fillRow();
+            } else if (kind == 6 && random.nextInt(6) == 0 && history.size() < 440) {
+                tell(text());
+                ask("square");
+            } else {
+                drawCall();
+            }
+        }
+        if (!good) {
+            for (String call : history) System.out.println("  " + call);
+        }
+    }
+
+    public static void main(String[] args) throws ReflectiveOperationException {
+        long from = args.length > 0 ? Long.parseLong(args[0]) : 0;
+        long to = args.length > 1 ? Long.parseLong(args[1]) : 40;
+        Told told = new Told();
+        for (long seed = from; seed < to; seed++) {
+            ModelTest test = new ModelTest(seed, told);
+            test.run();
+            if (!test.good) {
+                System.out.println("in the run of seed " + seed);
+                break;
+            }
+        }
+        told.close("ModelTest");
+    }
+}
