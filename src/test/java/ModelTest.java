@@ -23,8 +23,8 @@ final class ModelTest {
         "often 0 4 0 2000000000 1 20 0 39 0 60 0 100", "count 0 12", "keep 0 2", "back 0 2", "row 0 3 0 3 0 60",
         "write 0 3 0 20 0 39", "paste 0 3 0 10 0 3 0 10 0 10",
     };
-    /** Calls that would end most runs in an empty square, or that the Model plays slowly. */
-    private static final List<String> RARE = Arrays.asList("square", "end", "back", "row", "rule", "stand", "most", "tall", "pays", "best", "often", "blows", "gusts", "paste", "reach", "week");
+    /** Calls that would end most runs in an empty square, in empty rows or in floods. */
+    private static final List<String> RARE = Arrays.asList("square", "end", "back", "row", "blows", "gusts", "move", "nozzle");
 
     private final Random random;
     private final Told told;
@@ -64,26 +64,36 @@ final class ModelTest {
     private String text() {
         int wide = draw(5, 13);
         int length = draw(5, 13);
+        int jetX = wide / 2;
+        int jetY = length / 2;
         List<String> lines = new ArrayList<>();
         if (random.nextInt(5) > 0) {
-            lines.add("jet at " + draw(0, wide - 1) + " " + draw(0, length - 1) + " half " + draw(0, random.nextInt(4) == 0 ? 9 : 2) + " high " + draw(0, 60));
+            jetX = draw(0, wide - 1);
+            jetY = draw(0, length - 1);
+            lines.add("jet at " + jetX + " " + jetY + " half " + draw(0, random.nextInt(8) == 0 ? 9 : 1) + " high " + draw(0, 60));
         }
-        for (int i = draw(0, 4); i > 0; i--) {
+        for (int i = draw(random.nextInt(9) == 0 ? 0 : 1, 4); i > 0; i--) {
             lines.add("size drag " + draw(0, random.nextInt(3) == 0 ? 99 : 25) + " share " + draw(1, 9));
         }
         for (int i = draw(0, 5); i > 0; i--) {
-            lines.add("table at " + draw(0, wide - 1) + " " + draw(0, length - 1) + " most " + draw(0, random.nextInt(3) == 0 ? 999 : 20));
+            // most tables stand where some wind blows to
+            boolean near = random.nextInt(4) > 0;
+            int x = near && random.nextBoolean() ? jetX : near ? jetX + draw(-4, 4) : draw(0, wide - 1);
+            int y = near && x != jetX ? jetY : near ? jetY + draw(-4, 4) : draw(0, length - 1);
+            x = Math.max(0, Math.min(wide - 1, x));
+            y = Math.max(0, Math.min(length - 1, y));
+            lines.add("table at " + x + " " + y + " most " + draw(0, random.nextInt(3) == 0 ? 999 : 20));
         }
         if (random.nextInt(3) > 0) {
             lines.add("road " + draw(0, length - 1));
         }
         if (random.nextInt(4) > 0) {
-            lines.add("vane lag " + draw(0, 20) + " climb " + draw(1, 60));
+            lines.add("vane lag " + draw(0, random.nextBoolean() ? 3 : 20) + " climb " + draw(1, random.nextBoolean() ? 8 : 60));
         }
         int wind = draw(0, 4);
         StringBuilder rules = new StringBuilder();
         for (int i = draw(0, 4); i > 0 && wind < 10; i--) {
-            rules.append("rule wind ").append(wind).append(" high ").append(draw(0, 60)).append(";");
+            rules.append("rule wind ").append(wind).append(" high ").append(random.nextInt(4) == 0 ? 0 : draw(0, 60)).append(";");
             wind += draw(1, 4);
         }
         java.util.Collections.shuffle(lines, random);
@@ -148,9 +158,14 @@ final class ModelTest {
         int n = draw(0, 40);
         ask("row", slot, draw(0, 3), n);
         boolean marks = random.nextInt(6) == 0;
+        int steady = draw(0, 3) * 10;
+        int strong = draw(2, 9);
         for (int i = 0; i < Math.min(n, marks ? 2 : 40); i++) {
-            int steady = draw(0, 3) * 10;
-            ask("write", slot, i, marks ? draw(0, 12) + 100 * draw(0, 12) : random.nextInt(300) == 0 ? draw(-300, 300) : random.nextBoolean() ? draw(0, 39) : steady + draw(1, 9));
+            if (random.nextInt(8) == 0) {
+                steady = draw(0, 3) * 10;
+                strong = draw(2, 9);
+            }
+            ask("write", slot, i, marks ? draw(0, 12) + 100 * draw(0, 12) : random.nextInt(300) == 0 ? draw(-300, 300) : random.nextInt(9) == 0 ? draw(0, 39) : steady + draw(0, strong));
         }
     }
 
@@ -204,7 +219,7 @@ final class ModelTest {
 
     public static void main(String[] args) throws ReflectiveOperationException {
         long from = args.length > 0 ? Long.parseLong(args[0]) : 0;
-        long to = args.length > 1 ? Long.parseLong(args[1]) : 40;
+        long to = args.length > 1 ? Long.parseLong(args[1]) : 150;
         Told told = new Told();
         for (long seed = from; seed < to; seed++) {
             ModelTest test = new ModelTest(seed, told);
