@@ -477,7 +477,8 @@ public final class TableNine {
             return NOTHING;
         }
         beginDream();
-        return dreamDay(slot, what);
+        dreamDay(slot);
+        return gainOf(what);
     }
 
     public int lagged(int slot, int lag, int what) {
@@ -486,7 +487,8 @@ public final class TableNine {
         }
         beginDream();
         dream.plan.lag = lag;
-        return dreamDay(slot, what);
+        dreamDay(slot);
+        return gainOf(what);
     }
 
     public int two(int slot, int lag, int what) {
@@ -495,7 +497,8 @@ public final class TableNine {
         }
         beginDream();
         dream.plan.secondLag = lag;
-        return dreamDay(slot, what);
+        dreamDay(slot);
+        return gainOf(what);
     }
 
     public int climbs(int slot, int climb, int what) {
@@ -504,7 +507,8 @@ public final class TableNine {
         }
         beginDream();
         dream.plan.climb = climb;
-        return dreamDay(slot, what);
+        dreamDay(slot);
+        return gainOf(what);
     }
 
     public int week(int slot, int k, int what) {
@@ -515,7 +519,8 @@ public final class TableNine {
         for (int i = 1; i < k; i++) {
             dream.playRow(rows[slot]);
         }
-        return dreamDay(slot, what);
+        dreamDay(slot);
+        return gainOf(what);
     }
 
     public int worth(int slot) {
@@ -572,9 +577,9 @@ public final class TableNine {
                 beginDream();
                 dream.plan.dropRules();
                 dream.plan.addRule(wind, high);
-                int show = dreamDay(slot, 0);
-                if (show > greatest && dream.tablesOver() == 0) {
-                    greatest = show;
+                dreamDay(slot);
+                if (gainOf(0) > greatest && gainOf(3) == 0) {
+                    greatest = gainOf(0);
                     best = 100 * wind + high;
                 }
             }
@@ -593,7 +598,7 @@ public final class TableNine {
         for (int half = 0; half <= 9; half++) {
             beginDream();
             dream.plan.half = half;
-            dreamDay(slot, 0);
+            dreamDay(slot);
             if (dreamStrays() <= n) {
                 return half;
             }
@@ -672,7 +677,7 @@ public final class TableNine {
             return refusal;
         }
         beginDream();
-        dreamDay(slot, 0);
+        dreamDay(slot);
         int bits = 0;
         for (int table = 0; table < now.plan.tables; table++) {
             if (dream.tableWet(table) <= now.tableWet(table)) {
@@ -1023,29 +1028,34 @@ public final class TableNine {
         dream.copyFrom(now);
     }
 
-    private int dreamDay(int slot, int what) {
-        dream.playRow(rows[slot]);
+    /** The DAY of thought(), from what stands in the dream. */
+    private void dreamDay(int slot) {
+        Row row = rows[slot];
+        for (int i = 0; i < row.length; i++) {
+            dream.playWind(row.windAt(i));
+        }
         dream.air.dropAll(dream.plan);
-        return gainOf(what);
     }
 
     private void dreamByHigh(int slot, int high) {
         beginDream();
         dream.plan.high = high;
-        dreamDay(slot, 0);
+        dreamDay(slot);
     }
 
     private int dreamByStand(int slot, int x, int y) {
         beginDream();
         dream.plan.jetX = x;
         dream.plan.jetY = y;
-        return dreamDay(slot, 4);
+        dreamDay(slot);
+        return gainOf(4);
     }
 
     private int valueByLag(int slot, int lag) {
         beginDream();
         dream.plan.lag = lag;
-        return dreamDay(slot, 0) - gainOf(4);
+        dreamDay(slot);
+        return gainOf(0) - gainOf(4);
     }
 
     private int dreamStrays() {
@@ -1422,12 +1432,15 @@ public final class TableNine {
             return isWithin(x, jetX - half, jetX + half) && isWithin(y, jetY - half, jetY + half);
         }
 
-        /** The place of the CELL where a drop comes; IN_BASIN, or NONE beyond the square. */
+        /**
+         * The place of the CELL where a drop comes; IN_BASIN, or NONE beyond the square. It calls
+         * nothing, as it stands at the end of the longest chain of calls (LANGUAGE.md, rule 11).
+         */
         int placeHit(int x, int y) {
-            if (isBasin(x, y)) {
+            if (x >= jetX - half && x <= jetX + half && y >= jetY - half && y <= jetY + half) {
                 return IN_BASIN;
             }
-            return isCell(x, y) ? placeOf(x, y) : NONE;
+            return x >= 0 && x < wide && y >= 0 && y < length ? x + 100 * y : NONE;
         }
 
         int highLetBy(int strength) {
@@ -1544,7 +1557,7 @@ public final class TableNine {
         }
 
         int wetAt(int x, int y) {
-            return wet[cellOf(x, y)];
+            return wet[SIDE_MOST * y + x];
         }
 
         int dropsUp() {
@@ -1571,15 +1584,6 @@ public final class TableNine {
             }
         }
 
-        void dropDue(Plan plan) {
-            for (int pace = 1; pace <= PACE_MOST; pace++) {
-                int lump = (beats - 2 * pace) & RING_MASK;
-                if (paces[lump] == pace) {
-                    dropLump(plan, lump);
-                }
-            }
-        }
-
         /** As WIND 0 drifts nothing, all that is up comes down where it is now. */
         void dropAll(Plan plan) {
             for (int lump = 0; lump < RING; lump++) {
@@ -1589,7 +1593,7 @@ public final class TableNine {
             }
         }
 
-        private void dropLump(Plan plan, int lump) {
+        void dropLump(Plan plan, int lump) {
             for (int size = 0; size < plan.sizes; size++) {
                 int place = placeIn(plan, lump, size, 0, 0);
                 if (place == IN_BASIN) {
@@ -1657,7 +1661,12 @@ public final class TableNine {
         int playWind(int wind) {
             int before = air.lost + air.onCells;
             air.driftAll(plan, wind);
-            air.dropDue(plan);
+            for (int pace = 1; pace <= PACE_MOST; pace++) {
+                int lump = (air.beats - 2 * pace) & RING_MASK;
+                if (air.paces[lump] == pace) {
+                    air.dropLump(plan, lump);
+                }
+            }
             air.throwLump(plan, wind);
             return air.lost + air.onCells - before;
         }

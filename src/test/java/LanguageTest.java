@@ -7,7 +7,9 @@ import java.nio.file.Files;
 import java.nio.file.Path;
 import java.util.ArrayList;
 import java.util.List;
+import java.util.Map;
 import java.util.Set;
+import java.util.TreeMap;
 import java.util.TreeSet;
 import java.util.regex.Matcher;
 import java.util.regex.Pattern;
@@ -116,11 +118,55 @@ final class LanguageTest {
         }
     }
 
+    /** By its name, what each method of the program (or of several with one name) calls. */
+    private static Map<String, Set<String>> calls(String source) {
+        Map<String, Set<String>> calls = new TreeMap<>();
+        String now = "";
+        String end = "";
+        for (String line : source.split("\n")) {
+            Matcher head = Pattern.compile("^ {4,8}[\\w\\[\\] ]*?(\\w+)\\([^()]*\\) \\{$").matcher(line);
+            if (head.find() && !head.group(1).matches("if|for|while|switch")) {
+                now = head.group(1);
+                end = line.replaceAll("\\S.*", "") + "}";
+                calls.putIfAbsent(now, new TreeSet<>());
+            } else if (line.equals(end)) {
+                now = "";
+            } else if (!now.isEmpty()) {
+                Matcher call = Pattern.compile("(\\w+)\\(").matcher(line);
+                while (call.find()) {
+                    calls.get(now).add(call.group(1));
+                }
+            }
+        }
+        return calls;
+    }
+
+    private static int depth(Map<String, Set<String>> calls, String name, int level) {
+        int deepest = level;
+        for (String called : calls.get(name)) {
+            // a name that calls itself is another class's method of that name; there is no recursion
+            if (calls.containsKey(called) && !called.equals(name) && level < 20) {
+                deepest = Math.max(deepest, depth(calls, called, level + 1));
+            }
+        }
+        return deepest;
+    }
+
+    private static void depths(String source) {
+        Map<String, Set<String>> calls = calls(source);
+        told.due("methods are found", calls.size() > 120 ? 1 : 0, 1);
+        for (String name : calls.keySet()) {
+            int depth = depth(calls, name, 1);
+            told.due(name + " goes " + depth + " calls deep, so at most eight", depth <= 8 ? 1 : 0, 1);
+        }
+    }
+
     public static void main(String[] args) throws IOException {
         face();
         String source = Files.readString(Path.of("src/main/java/TableNine.java"));
         words(bare(source));
         lengths(source);
+        depths(bare(source));
         told.close("LanguageTest");
     }
 }

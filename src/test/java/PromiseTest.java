@@ -300,6 +300,14 @@ final class PromiseTest {
         x.blows(33, 2);
         due("LOST", x.water(3), 1);
         due("blow() counts LOST", x.blow(33), 1);
+        // a LUMP of one drop, with PACE 1
+        TableNine w = Told.squareOf("square wide 5 long 5; jet at 2 2 half 0 high 1; size drag 99 share 1; table at 3 2 most 0;");
+        w.blow(0);
+        due("water(0) of one drop", w.water(0), 1);
+        due("water(1) of one drop", w.water(1), 1);
+        due("already(0, 11) of one drop", w.already(0, 11), 1);
+        due("last(0, 11) of one drop", w.last(0, 11), 2);
+        due("worst(0) of one drop", w.worst(0), 11);
         // drifted less than a CELL either way is cut towards 0
         TableNine y = Told.squareOf("square wide 5 long 5; jet at 2 2 half 0 high 1; size drag 99 share 9;");
         due("land cut", y.land(0, 1, 30), 202);
@@ -528,6 +536,17 @@ final class PromiseTest {
         due("shut(0, 4)", x.shut(0, 4), 3);
         due("shut(0, 9)", x.shut(0, 9), 3);
         due("shut(0, 10)", x.shut(0, 10), -1);
+        due("shut(0, 9999)", x.shut(0, 9999), -1);
+        due("tall(0, 9999)", x.tall(0, 9999), 14);
+        due("half(0, 9999)", x.half(0, 9999), 0);
+        due("pays(0, 99)", x.pays(0, 99), 14);
+        // in the BEAT behind this row something comes on the table and the road, in the row nothing
+        Told.rowOf(x, 2, 13, 13);
+        due("shut(2, 4)", x.shut(2, 4), -1);
+        due("first(2, 0)", x.first(2, 0), -1);
+        Told.rowOf(x, 2, 13, 13, 0);
+        due("shut(2, 4) by one more", x.shut(2, 4), 3);
+        due("first(2, 0) by one more", x.first(2, 0), 3);
         due("day(0)", x.day(0), 6);
         due("jet(2)", x.jet(2), 10);
 
@@ -543,6 +562,9 @@ final class PromiseTest {
         // only what is thrown in the first BEAT comes on the table, if it is thrown at all
         Told.rowOf(y, 0, 12, 12, 12, 0, 0);
         due("rule(0) that lets down", y.rule(0), 100);
+        // the LUMP of the first BEAT flies far beyond, that of the second comes on the table
+        Told.rowOf(y, 0, 38, 19, 14);
+        due("rule(0) by the strongest wind", y.rule(0), 900);
         TableNine free = Told.squareOf("square wide 9 long 9; size drag 50 share 1;");
         Told.rowOf(free, 0, 12, 12, 12);
         due("rule(0) without tables", free.rule(0), 30);
