@@ -99,6 +99,9 @@ final class PromiseTest {
         faultOf("road 1;", 1, 0);
         faultOf(" ;", 1, 1);
         faultOf("Square", 1, 0);
+        faultOf("xquare wide 5 long 5;", 1, 0);
+        faultOf("squarx wide 5 long 5;", 1, 0);
+        faultOf(five + "xoad 1;", 1, 21);
         faultOf("square wide x", 1, 12);
         faultOf("square wide;", 1, 11);
         faultOf("square 5", 1, 7);
