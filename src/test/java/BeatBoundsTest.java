@@ -13,7 +13,11 @@ final class BeatBoundsTest {
 
     /** By STRENGTH 0 a LUMP goes up, by any other none: so one LUMP can be watched. */
     private static TableNine one(String text, int high, int drag, int share) {
-        TableNine x = Told.squareOf(text + " high " + high + ";size drag " + drag + " share " + share + ";rule wind 1 high 0;");
+        return one(text, high, drag, share, "");
+    }
+
+    private static TableNine one(String text, int high, int drag, int share, String more) {
+        TableNine x = Told.squareOf(text + " high " + high + ";size drag " + drag + " share " + share + ";rule wind 1 high 0;" + more);
         due("the first BEAT", x.blow(0), 0);
         due("one LUMP", x.water(1), 1);
         due("its drops", x.water(0), share);
@@ -323,6 +327,19 @@ final class BeatBoundsTest {
         due("over() of no TABLES", Told.squareOf("square wide 5 long 5;").over(), 0);
     }
 
+    /** All that was thrown is in the air, CAUGHT, LOST or on CELLS. */
+    private static void allWater() {
+        TableNine x = Told.squareOf("square wide 5 long 5;jet at 2 2 half 0 high 1;size drag 0 share 1;size drag 50 share 2;size drag 99 share 4;");
+        for (int beat = 1; beat <= 6; beat++) {
+            x.blow(12);
+            int down = Math.max(0, beat - 2);
+            int[] due = {7 * (beat - down), beat - down, down, 4 * down, 2 * down, 7 * beat};
+            for (int what = 0; what < 6; what++) {
+                due("water(" + what + ") behind " + beat, x.water(what), due[what]);
+            }
+        }
+    }
+
     private static void nozzles() {
         // from now on: one BEAT with 50, one with another drag
         int[][] cases = {{0, 2}, {99, 4}, {49, 3}, {50, 4}, {1, 2}};
@@ -368,6 +385,19 @@ final class BeatBoundsTest {
             due("ice() beside", x.ice() - before, x.sum(0, road, 30, 1) - before);
         }
         due("ice() of no road", Told.squareOf("square wide 5 long 7;").ice(), -1);
+        // of the greatest square: from X 0 to 29, not X 0 of the next row
+        for (int road : new int[] {0, 28, 29}) {
+            for (int y : new int[] {road, road + 1}) {
+                for (int at : new int[] {0, 29}) {
+                    if (y < 30) {
+                        TableNine x = one("square wide 30 long 30;jet at " + (at == 0 ? 1 : 28) + " " + y + " half 0", 1, 50, 3, "road " + road + ";");
+                        x.blows(at == 0 ? 31 : 11, 2);
+                        due("wet at " + at + " " + y, x.wet(at, y), 3);
+                        due("ice() of road " + road + " at " + at + " " + y, x.ice(), y == road ? 3 : 0);
+                    }
+                }
+            }
+        }
     }
 
     private static int draw(BigInteger seed, int n) {
@@ -508,6 +538,7 @@ final class BeatBoundsTest {
         fullAir();
         blows();
         over();
+        allWater();
         nozzles();
         ice();
         gusts();

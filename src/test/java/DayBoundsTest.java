@@ -77,6 +77,15 @@ final class DayBoundsTest {
         // no SIZES, no TABLES, no HIGH
         thoughts("no SIZES", told(NINE, 11, 11), 60, 0, 0, 0, 0, 0);
         thoughts("high 0", told(LOW.replace("high 1", "high 0"), 11, 11, 11), 0, 0, 0, 0, 0, 0);
+        // what was LOST, CAUGHT, on CELLS, SHOW and WET ahead is not more
+        TableNine y = told(LOW, 11, 11, 11);
+        y.blows(19, 5);
+        y.blows(11, 5);
+        y.blows(0, 4);
+        due("LOST ahead", y.water(3) > 0 ? 1 : 0, 1);
+        due("CAUGHT ahead", y.water(2) > 0 ? 1 : 0, 1);
+        due("WET ahead", y.table(0, 3) > 1 ? 1 : 0, 1);
+        thoughts("what was ahead", y, 3, 0, 2, 1, 2, 3);
         // WET of all TABLES, each by itself
         thoughts("two TABLES", told(LOW + "table at 5 4 most 9;table at 4 4 most 0;", 11, 11, 11), 3, 0, 1, 1, 2, 2);
     }
@@ -261,6 +270,8 @@ final class DayBoundsTest {
         for (int wind = 2; wind <= 9; wind++) {
             TableNine x = told(sized + (100 / wind + 1) + " share 1;", wind - 1, 10 + wind, 10 + wind, 30, 30);
             due("rule by wind " + wind, x.rule(0), 100 * wind);
+            TableNine y = told(sized + (100 / wind + 1) + " share 1;rule wind 0 high 0;rule wind 9 high 60;", wind - 1, 10 + wind, 10 + wind, 30, 30);
+            due("rule by wind " + wind + " in place of all", y.rule(0), 100 * wind);
         }
         due("rule by wind 1", told(sized + "99 share 1;", 0, 11, 11, 11, 30).rule(0), 100);
         // if nothing may go up at all, wind 0 is the least
@@ -395,6 +406,49 @@ final class DayBoundsTest {
         due("idle(-1)", x.idle(-1), -2);
     }
 
+    /** A thought leaves nothing behind for the next one, whichever it is. */
+    private static void eachByItself() {
+        TableNine x = told(LOW + "road 4;rule wind 1 high 1;rule wind 3 high 0;vane lag 1 climb 1;", 11, 13, 0, 12, 11);
+        x.blows(11, 4);
+        x.blows(13, 2);
+        int calls = 19;
+        int[] due = new int[calls];
+        for (int i = 0; i < calls; i++) {
+            due[i] = think(x, i);
+        }
+        for (int i = 0; i < calls; i++) {
+            for (int j = 0; j < calls; j++) {
+                think(x, j);
+                due("thought " + i + " behind thought " + j, think(x, i), due[i]);
+            }
+        }
+        due("all stays", x.jet(2), 6);
+    }
+
+    private static int think(TableNine x, int call) {
+        switch (call) {
+            case 0: return x.thought(0, 0);
+            case 1: return x.lagged(0, 20, 0);
+            case 2: return x.two(0, 3, 0);
+            case 3: return x.climbs(0, 60, 0);
+            case 4: return x.week(0, 10, 5);
+            case 5: return x.worth(0);
+            case 6: return x.most(0, 0);
+            case 7: return x.rule(0);
+            case 8: return x.half(0, 1);
+            case 9: return x.shut(0, 3);
+            case 10: return x.wear(0);
+            case 11: return x.idle(0);
+            case 12: return x.first(0, 0);
+            case 13: return x.best(0);
+            case 14: return x.stand(0, 2);
+            case 15: return x.tall(0, 3);
+            case 16: return x.pays(0, 9);
+            case 17: return x.dry(0);
+            default: return x.often(0, 7, 5, 11, 9, 50);
+        }
+    }
+
     private static void stand() {
         // all are like: the first CELL by Y, then X, that there is
         int[][] jets = {{4, 4}, {0, 0}, {8, 8}, {1, 7}, {8, 2}};
@@ -417,6 +471,10 @@ final class DayBoundsTest {
         TableNine y = thrown(ONE.replace("half 0", "half 1").replace("at 5 4", "at 6 4"), 12, 12);
         due("stand with its basin, d 1", y.stand(0, 1), 305);
         due("stand with its basin, d 0", y.stand(0, 0), 404);
+        // less WET is better, though no TABLE is over by any
+        TableNine less = told(LOW.replace("most 0", "most 999") + "table at 4 3 most 999;", 11, 11, 11, 11);
+        due("no TABLE over", less.thought(0, 3), 0);
+        due("stand by WET", less.stand(0, 1), 304);
         // the only good one is the last: TABLES are 1 off from all the others
         StringBuilder tables = new StringBuilder(NINE + "jet at 4 4 half 0 high 1;size drag 50 share 1;");
         int[][] at = {{4, 3}, {5, 3}, {6, 3}, {4, 4}, {5, 4}, {6, 4}, {4, 5}, {5, 5}};
@@ -534,6 +592,7 @@ final class DayBoundsTest {
         shut();
         first();
         wearAndIdle();
+        eachByItself();
         stand();
         tall();
         pays();

@@ -97,6 +97,58 @@ final class PlaceBoundsTest {
         due("last in one BEAT", x.last(0, 0), 1);
     }
 
+    /** Each of the 40 WINDS: a drop in the air comes so many CELLS off by its WAY, and nowhere else. */
+    private static void everyWind() {
+        TableNine x = Told.squareOf("square wide 30 long 30;jet at 15 15 half 0 high 1;size drag 50 share 7;rule wind 1 high 0;table at 0 0 most 0;");
+        x.blow(0);
+        for (int wind = 0; wind < 40; wind++) {
+            int way = wind / 10;
+            int cells = wind % 10;
+            due("coming by " + wind, x.coming(wind), cells == 0 ? 0 : 7);
+            if (cells > 0) {
+                x.move(0, 15 + cells * DX[way], 15 + cells * DY[way]);
+                due("worst of " + wind, x.worst(0), wind);
+                for (int other : new int[] {wind - 1, wind, wind + 1, (wind + 10) % 40, (wind + 20) % 40, (wind + 30) % 40}) {
+                    if (other < 40) {
+                        due("already of " + wind + " by " + other, x.already(0, other), other == wind ? 7 : 0);
+                        due("last of " + wind + " by " + other, x.last(0, other), other == wind ? 2 : 0);
+                    }
+                }
+            }
+        }
+    }
+
+    /** As many SIZES as there are, and not those of the SQUARE ahead. */
+    private static void sizesInTheAir() {
+        String five = "square wide 9 long 9;jet at 4 4 half 0 high 1;table at 5 4 most 0;rule wind 1 high 0;";
+        TableNine x = Told.squareOf(five + "size drag 0 share 9;".repeat(4) + "size drag 50 share 9;");
+        x.blow(0);
+        due("already of the fifth SIZE", x.already(0, 11), 9);
+        due("coming of the fifth SIZE", x.coming(11), 9);
+        due("last of the fifth SIZE", x.last(0, 11), 2);
+        due("worst of the fifth SIZE", x.worst(0), 11);
+        Told.tell(x, five + "size drag 0 share 9;");
+        x.square();
+        x.blow(0);
+        for (int wind = 0; wind < 40; wind++) {
+            due("already of one SIZE", x.already(0, wind), 0);
+            due("coming of one SIZE", x.coming(wind), 0);
+            due("last of one SIZE", x.last(0, wind), 0);
+        }
+        due("worst of one SIZE", x.worst(0), -1);
+        Told.tell(x, five + "size drag 50 share 9;".repeat(5));
+        x.square();
+        x.blow(0);
+        Told.tell(x, five);
+        x.square();
+        x.blow(0);
+        for (int wind = 0; wind < 40; wind++) {
+            due("already of no SIZES", x.already(0, wind), 0);
+            due("coming of no SIZES", x.coming(wind), 0);
+            due("last of no SIZES", x.last(0, wind), 0);
+        }
+    }
+
     /** Of two LUMPS the first has one BEAT left, the second two. */
     private static void last() {
         TableNine x = Told.squareOf(FIELD + "table at 5 4 most 0;table at 6 4 most 0;table at 7 4 most 0;");
@@ -331,6 +383,8 @@ final class PlaceBoundsTest {
         nothingInTheAir();
         longestFlight();
         worst();
+        everyWind();
+        sizesInTheAir();
         last();
         where();
         whereByWet();

@@ -198,6 +198,10 @@ final class SteadyBoundsTest {
         TableNine y = Told.squareOf("square wide 5 long 30;jet at 2 10 half 0 high 1;size drag 50 share 1;");
         due("mist by WAY 0", y.mist(0, 1), 10);
         due("mist by WAY 2", y.mist(0, 21), 11);
+        // the first CELL of all is one, too
+        TableNine z = Told.squareOf("square wide 5 long 5;jet at 4 0 half 0 high 1;size drag 50 share 1;");
+        due("mist on (0, 0)", z.mist(0, 31), 4);
+        due("mist on (0, 0) alone", z.mist(0, 34), 1);
     }
 
     private static void winds(TableNine x, String name, int many, int least, int high) {
@@ -237,11 +241,32 @@ final class SteadyBoundsTest {
         Told.rowOf(x, 0, full);
         winds(x, "a full row with another at its end", 0, -1, 3);
         widths(x);
+        firstCellAndBeyond();
         TableNine none = Told.squareOf(FIELD);
         Told.rowOf(none, 0, 1011);
         winds(none, "no SIZES", 0, -1, 1);
         Told.rowOf(none, 0);
         winds(none, "no SIZES and no marks", 40, 0, 1);
+    }
+
+    /** The mark of the first CELL is 0; one below 0 is nowhere, though drops are LOST or CAUGHT. */
+    private static void firstCellAndBeyond() {
+        TableNine x = Told.squareOf("square wide 5 long 5;jet at 4 0 half 0 high 1;size drag 50 share 1;");
+        Told.rowOf(x, 0, 0);
+        winds(x, "mark 0", 1, 34, 1);
+        for (int mark = -1; mark >= -10; mark--) {
+            Told.rowOf(x, 0, mark);
+            winds(x, "mark " + mark, 0, -1, 60);
+            winds(x, "mark " + mark, 0, -1, 1);
+        }
+        // the last CELL of the greatest square
+        TableNine y = Told.squareOf("square wide 30 long 30;jet at 29 28 half 0 high 1;size drag 50 share 1;");
+        Told.rowOf(y, 0, 2929);
+        winds(y, "mark 2929", 1, 21, 1);
+        Told.rowOf(y, 0, 2930);
+        winds(y, "mark 2930", 0, -1, 1);
+        Told.rowOf(y, 0, 3029);
+        winds(y, "mark 3029", 0, -1, 3);
     }
 
     /** Marks are what is left of numbers that are cut. */

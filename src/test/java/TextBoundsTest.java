@@ -287,6 +287,7 @@ final class TextBoundsTest {
         for (String word : new String[] {"wide", "long", "at", "half", "high", "drag", "share", "most", "lag", "climb", "wind", "jets", "je", "roads", "z"}) {
             faulty(FIVE + word, 1, 21);
         }
+        everyLetter();
         faulty(";", 1, 0);
         faulty("5", 1, 0);
         faulty(";" + FIVE, 1, 0);
@@ -295,6 +296,26 @@ final class TextBoundsTest {
         faulty(FIVE + "road 1;;", 1, 28);
         faulty("square wide 5 long 5 road 1;", 1, 21);
         faulty("square wide 5 long 5 5;", 1, 21);
+    }
+
+    /** A word with another letter, one less, one more is another word, which can't stand there. */
+    private static void everyLetter() {
+        String text = FIVE + "jet at 1 2 half 3 high 4;size drag 1 share 2;table at 1 2 most 3;road 1;vane lag 1 climb 2;rule wind 1 high 2;";
+        taken(text, 7);
+        int start = 0;
+        for (int at = 0; at < text.length(); at++) {
+            if (!Character.isLetter(text.charAt(at))) {
+                start = at + 1;
+                continue;
+            }
+            String ahead = text.substring(0, at);
+            String behind = text.substring(at + 1);
+            char other = text.charAt(at) == 'q' ? 'x' : 'q';
+            faulty(ahead + other + behind, 1, start);
+            faulty(ahead + text.charAt(at) + other + behind, 1, start);
+            faulty(ahead + Character.toUpperCase(text.charAt(at)) + behind, 1, at == start ? at : start);
+            faulty(ahead + behind, 1, start);
+        }
     }
 
     /** A text that ends anywhere but behind a LINE has its FAULT at the end, blanks or not. */
@@ -447,6 +468,8 @@ final class TextBoundsTest {
         TableNine x = Told.squareOf("square wide 9 long 7;jet at 4 3 half 0 high 3;size drag 50 share 2;table at 6 3 most 0;road 3;");
         x.keep(1);
         x.blows(11, 9);
+        x.blows(19, 9);
+        x.blows(0, 9);
         Told.rowOf(x, 2, 11, 12, 13);
         return x;
     }
@@ -467,6 +490,9 @@ final class TextBoundsTest {
     /** A new SQUARE: there was no BEAT. SLOTS and IMAGES are as they were. */
     private static void newSquare() {
         TableNine x = lived();
+        for (int what = 0; what <= 5; what++) {
+            due("water(" + what + ") ahead", x.water(what) > 0 ? 1 : 0, 1);
+        }
         due("WET ahead", x.table(0, 3) > 0 ? 1 : 0, 1);
         Told.tell(x, "square wide 9 long 7;jet at 4 3 half 0 high 3;size drag 50 share 2;table at 6 3 most 0;road 3;vane lag 1 climb 60;");
         due("square()", x.square(), 6);
